@@ -130,11 +130,7 @@ public final class InputRoom {
     }
 
     public int word(int w) {
-        if (w < 0 || w > LAST_WORD || words.count >= MOST_WORDS) {
-            return NONE;
-        }
-        words.add(w);
-        return words.count;
+        return w < 0 || w > LAST_WORD ? NONE : words.add(w);
     }
 
     public int run(int n) {
@@ -436,18 +432,19 @@ public final class InputRoom {
     private static final class Words {
         private final int[] ring = new int[MOST_WORDS];
         private int start;
-        int count;
+        private int count;
         // Counted apart from the words that lie here: a word may be dropped
         // before it was told, and is told all the same.
         private int untold;
 
-        void add(int word) {
+        int add(int word) {
             if (count >= MOST_WORDS) {
-                return;
+                return NONE;
             }
             ring[place(count)] = word;
             count++;
             untold++;
+            return count;
         }
 
         void dropFirst() {
