@@ -406,7 +406,7 @@ public final class InputRoom {
         }
 
         Proc processAt(int i) {
-            if (i < 0) {
+            if (i < 0 || i >= PROCESSES) {
                 return null;
             }
             Proc process = first;

@@ -12,6 +12,8 @@ public final class ModelTest {
     // With the plans before them and the look at the state behind them they
     // stay under the 512 calls that an object is promised for.
     private static final int MOST_CALLS = 50;
+    private static final int WHOLE_LIVES = 3000;
+    private static final int CALLS_OF_A_LIFE = 512;
 
     /** The document's terms as they stand there; everything is looked up, nothing is kept twice. */
     private static final class Model {
@@ -215,8 +217,29 @@ public final class ModelTest {
                     words.add(a);
                     came.add(a);
                     return words.size();
-                default:
+                case "run":
                     return runIt(a);
+                default:
+                    return told(call, a, b);
+            }
+        }
+
+        long told(String call, int a, int b) {
+            switch (call) {
+                case "active": return active;
+                case "present": return present();
+                case "clock": return clock;
+                case "codes": return codes;
+                case "done": return made(a) ? done[a] : -1;
+                case "row": return row(a);
+                case "at":
+                    boolean such = a >= 1 && a <= 8 || a >= 16 && a <= 31;
+                    return such && b >= 0 && b < rows.get(a).size() ? rows.get(a).get(b) : -1;
+                case "extra": return semaphore(a) ? extra[a] : -1;
+                case "wordAt": return a >= 0 && a < words.size() ? words.get(a) : -1;
+                case "input": return input;
+                case "tick": return alarm == -1 ? -1 : tick;
+                default: throw new IllegalArgumentException(call);
             }
         }
 
@@ -242,6 +265,12 @@ public final class ModelTest {
 
     private static final String[] NAMES =
         {"make", "plan", "plan", "wake", "wake", "suspend", "signal", "listen", "alarm", "word", "word", "run", "run"};
+    private static final String[] ALL_NAMES = {"make", "make", "plan", "plan", "plan", "wake", "wake", "suspend",
+        "signal", "listen", "alarm", "word", "run", "run", "run", "active", "present", "clock", "codes", "done",
+        "row", "at", "extra", "wordAt", "input", "tick"};
+    /** The least and the most of what a call takes, for arguments that lie at these or one beside. */
+    private static final int[] EDGES =
+        {0, 1, 7, 8, 15, 16, 31, 32, 47, 48, 63, 64, 79, 80, 95, 96, 127, 1000, 65535, 1000000, -1, Integer.MIN_VALUE};
 
     private static int wrong = 0;
     private static StringBuilder told = new StringBuilder();
@@ -263,7 +292,25 @@ public final class ModelTest {
             case "listen": return x.listen(a) ? 1 : 0;
             case "alarm": return x.alarm(a, b) ? 1 : 0;
             case "word": return x.word(a);
-            default: return x.run(a);
+            case "run": return x.run(a);
+            default: return told(x, call, a, b);
+        }
+    }
+
+    private static long told(InputRoom x, String call, int a, int b) {
+        switch (call) {
+            case "active": return x.active();
+            case "present": return x.present();
+            case "clock": return x.clock();
+            case "codes": return x.codes();
+            case "done": return x.done(a);
+            case "row": return x.row(a);
+            case "at": return x.at(a, b);
+            case "extra": return x.extra(a);
+            case "wordAt": return x.wordAt(a);
+            case "input": return x.input();
+            case "tick": return x.tick();
+            default: throw new IllegalArgumentException(call);
         }
     }
 
@@ -318,6 +365,46 @@ public final class ModelTest {
         dueState(x, m);
     }
 
+    /** A whole life of an object, in which the calls that ask come among the others. */
+    private static void liveOnce(long seed) {
+        Random random = new Random(seed);
+        InputRoom x = new InputRoom();
+        Model m = new Model();
+        told = new StringBuilder();
+        int processes = random.nextInt(3) == 0 ? 32 : 2 + random.nextInt(10);
+        int semaphores = random.nextInt(3) == 0 ? 16 : 1 + random.nextInt(4);
+        boolean manyWords = random.nextInt(3) == 0;
+        for (int k = 0; k < CALLS_OF_A_LIFE; k++) {
+            String name = manyWords && random.nextInt(3) == 0 ? "word" : ALL_NAMES[random.nextInt(ALL_NAMES.length)];
+            int a = random.nextInt(12) == 0 ? edge(random) : firstOf(random, name, processes, semaphores);
+            int b = random.nextInt(12) == 0 ? edge(random) : secondOf(random, name, m.clock);
+            int c = random.nextInt(12) == 0 ? edge(random) : act(random, semaphores);
+            call(x, m, name, a, b, c);
+        }
+    }
+
+    private static int edge(Random random) {
+        return EDGES[random.nextInt(EDGES.length)] + random.nextInt(3) - 1;
+    }
+
+    private static int firstOf(Random random, String name, int processes, int semaphores) {
+        switch (name) {
+            case "done": case "row": return random.nextInt(processes);
+            case "at": return random.nextInt(33);
+            case "wordAt": return random.nextInt(65);
+            default: return argument(random, name, processes, semaphores);
+        }
+    }
+
+    private static int secondOf(Random random, String name, int clock) {
+        switch (name) {
+            case "make": return 1 + random.nextInt(8);
+            case "plan": return random.nextInt(8);
+            case "alarm": return clock + random.nextInt(12) - 3;
+            default: return random.nextInt(4);
+        }
+    }
+
     private static void call(InputRoom x, Model m, String name, int a, int b, int c) {
         String call = name + "(" + a + ", " + b + ", " + c + ")";
         due(call, answer(x, name, a, b, c), m.answer(name, a, b, c));
@@ -356,7 +443,10 @@ public final class ModelTest {
         for (int seed = 0; seed < RUNS && wrong == 0; seed++) {
             runOnce(seed);
         }
-        System.out.println(wrong == 0 ? RUNS + " runs are as the model's" : wrong + " answers are not as due");
+        for (int seed = 0; seed < WHOLE_LIVES && wrong == 0; seed++) {
+            liveOnce(seed);
+        }
+        System.out.println(wrong == 0 ? RUNS + WHOLE_LIVES + " runs are as the model's" : wrong + " answers are not as due");
         if (wrong != 0) {
             System.exit(1);
         }
