@@ -891,6 +891,43 @@ public final class EdgeTest {
         due(3, x.extra(2));
     }
 
+    private static void wordGoneBeforeItWasTold() {
+        sentence("for each word that came since (it went with the very code behind which it is told)");
+        InputRoom x = roomAtWork(0, 49, 49, 49);
+        due(true, x.listen(2));
+        due(1, x.run(1));
+        due(1, x.word(1));
+        due(1, x.run(1));
+        dueWords(x);
+        due(1, x.extra(2));
+        due(1, x.word(2));
+        due(2, x.word(3));
+        due(1, x.run(1));
+        dueWords(x, 3);
+        due(3, x.extra(2));
+        due(1, x.run(1));
+        dueWords(x);
+        due(3, x.extra(2));
+    }
+
+    private static void inputOfTheCodeItself() {
+        sentence("input is POSTED (if there is one then) (the code behind which it is told made or ended it)");
+        InputRoom x = roomAtWork(0, 85, 50, 86);
+        due(1, x.run(1));
+        due(1, x.word(1));
+        due(1, x.run(1));
+        due(1, x.extra(5));
+        due(2, x.word(2));
+        due(1, x.run(1));
+        due(NONE, x.input());
+        due(1, x.extra(5));
+        due(true, x.listen(5));
+        due(3, x.word(3));
+        due(1, x.run(1));
+        due(1, x.extra(5));
+        due(1, x.extra(6));
+    }
+
     private static void all64WordsArePosted() {
         sentence("for each word that came since, in their order, input is POSTED (64 came)");
         InputRoom x = roomOfAll(3);
@@ -1971,6 +2008,8 @@ public final class EdgeTest {
     private static void behind() {
         noWordCame();
         wordIsPostedOnce();
+        wordGoneBeforeItWasTold();
+        inputOfTheCodeItself();
         all64WordsArePosted();
         noInputThen();
         alarmBelowItsTick();
